@@ -354,15 +354,15 @@ public final class StripeTrade {
         int many = 0;
         int first = NONE;
         for (int choice = 0; choice < CHOICES * CHOICES; choice++) {
-            int i = choice / CHOICES;
-            int j = choice % CHOICES;
-            if (isRest(apart, i, j)) {
-                first = many == 0 ? 10 * i + j : first;
+            if (isRest(apart, choice / CHOICES, choice % CHOICES)) {
+                first = many == 0 ? 10 * (choice / CHOICES) + choice % CHOICES : first;
                 many++;
             }
         }
         if (what == 2) {
-            return first == NONE ? 0 : gainOfOne(apart, first / 10, first % 10) + gainOfOther(apart, first / 10, first % 10);
+            int i = first / 10;
+            int j = first % 10;
+            return first == NONE ? 0 : gainOfOne(apart, i, j) + gainOfOther(apart, i, j);
         }
         return what == 0 ? many : first;
     }
@@ -1673,7 +1673,7 @@ public final class StripeTrade {
             return least[beasts];
         }
 
-        /** The unlike sets of told beasts that one listed number lets through, and no other beast with them: how many. */
+        /** Finds the unlike sets of told beasts that one number lets through without any other beast: how many. */
         private int findGroups(Stock stock, int beasts, int forgiven) {
             int many = 0;
             for (int number = 0; number < NUMBERS; number++) {
