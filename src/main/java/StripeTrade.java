@@ -1260,10 +1260,14 @@ public final class StripeTrade {
 
         private int feeOf(Stock stock, int beast, int gate, int gone) {
             int apart = slipsToNearest(stock.now[beast], gate);
-            return apart == NONE ? NONE : charge(stock, beast, gate, apart, gone);
+            if (apart == NONE) {
+                return NONE;
+            }
+            noteFacts(stock, beast, gate, apart, gone);
+            return law.feeFor(facts);
         }
 
-        private int charge(Stock stock, int beast, int gate, int apart, int gone) {
+        private void noteFacts(Stock stock, int beast, int gate, int apart, int gone) {
             facts[Law.TOLL] = book.tolls[gate];
             facts[Law.APART] = apart;
             facts[Law.MARKS] = Integer.bitCount(stock.now[beast]);
@@ -1272,7 +1276,6 @@ public final class StripeTrade {
             facts[Law.PASSED] = stock.passed[beast];
             facts[Law.NUMBER] = stock.now[beast];
             facts[Law.GATE] = gate;
-            return law.feeFor(facts);
         }
 
         /** What a passing costs now, NONE if it can't be done. */
@@ -1281,7 +1284,8 @@ public final class StripeTrade {
             if (apart == NONE || apart > book.forgives[gate]) {
                 return NONE;
             }
-            int price = charge(stock, beast, gate, apart, stock.gone[gate]);
+            noteFacts(stock, beast, gate, apart, stock.gone[gate]);
+            int price = law.feeFor(facts);
             return price <= stock.coins ? price : NONE;
         }
 

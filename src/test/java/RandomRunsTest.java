@@ -337,6 +337,10 @@ public final class RandomRunsTest {
             }
             t.append(blanks()).append(';');
         }
+        if (depth == 0 && random.nextInt(30) == 0) {
+            int deep = 5 + random.nextInt(3);
+            t.append("again 2[".repeat(deep)).append("year;").append("];".repeat(deep));
+        }
         return t.append(blanks()).toString();
     }
 
