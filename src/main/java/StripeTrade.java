@@ -677,12 +677,12 @@ public final class StripeTrade {
             return isAtEnd() || refuse(FAULT_SIGN, place);
         }
 
-        private boolean isDigitNext() {
-            return place < end && bytes[place] >= '0' && bytes[place] <= '9';
+        private static boolean isDigit(int sign) {
+            return sign >= '0' && sign <= '9';
         }
 
-        private boolean isLetterNext() {
-            return place < end && bytes[place] >= 'a' && bytes[place] <= 'z';
+        private static boolean isLetter(int sign) {
+            return sign >= 'a' && sign <= 'z';
         }
 
         /** The number that stands next, or NONE behind a fault. */
@@ -690,7 +690,7 @@ public final class StripeTrade {
             nextSign();
             numberPlace = place;
             int value = 0;
-            while (isDigitNext()) {
+            while (place < end && isDigit(bytes[place])) {
                 value = Math.min(value * 10 + bytes[place] - '0', NO_NUMBER_IS_SO_BIG);
                 place++;
             }
@@ -708,7 +708,7 @@ public final class StripeTrade {
         private void readWord() {
             nextSign();
             wordPlace = place;
-            while (isLetterNext()) {
+            while (place < end && isLetter(bytes[place])) {
                 place++;
             }
         }
@@ -1108,7 +1108,7 @@ public final class StripeTrade {
             if (sign == '(') {
                 return readGroup(tape, open);
             }
-            if (!tape.isLetterNext()) {
+            if (!Tape.isLetter(sign)) {
                 int number = tape.readNumber(999);
                 add(PUT_NUMBER, number);
                 return number != NONE;

@@ -6,15 +6,29 @@ final class Due {
 
     private static int wrong = 0;
     private static int asked = 0;
+    private static String sentence = "";
 
     private Due() {
+    }
+
+    /** The words of the document which the next answers hold to; they are printed with a wrong one. */
+    static void sentence(String where, String words) {
+        sentence = where + " \"" + words + "\": ";
     }
 
     static void is(String what, long want, long got) {
         asked++;
         if (want != got) {
             wrong++;
-            System.out.println(what + " answered " + got + ", due is " + want);
+            System.out.println(sentence + what + " answered " + got + ", due is " + want);
+        }
+    }
+
+    static void same(String what, String want, String got) {
+        asked++;
+        if (!want.equals(got)) {
+            wrong++;
+            System.out.println(sentence + what + " answered\n" + got + "due is\n" + want);
         }
     }
 
@@ -38,7 +52,7 @@ final class Due {
             got = "threw " + e;
         }
         wrong++;
-        System.out.println(what + " " + got + ", due is " + due.getSimpleName());
+        System.out.println(sentence + what + " " + got + ", due is " + due.getSimpleName());
     }
 
     /** Puts a text on the tape, filled up with blanks to whole feeds, and answers its length. */
@@ -54,6 +68,12 @@ final class Due {
         return text.length();
     }
 
+    static StripeTrade of(String trade) {
+        StripeTrade x = new StripeTrade();
+        trade(x, trade);
+        return x;
+    }
+
     static int trade(StripeTrade x, String text) {
         return x.trade(feed(x, text));
     }
@@ -64,6 +84,32 @@ final class Due {
 
     static int work(StripeTrade x, String text) {
         return x.work(feed(x, text));
+    }
+
+    /** All that can be asked of what a fault or a refused call leaves: not the tape, not fault(), not status(). */
+    static String state(StripeTrade x) {
+        StringBuilder s = new StringBuilder("told");
+        for (int what = 0; what <= 8; what++) {
+            s.append(' ').append(x.told(what));
+        }
+        for (int b = 0; b < x.told(0); b++) {
+            s.append("\nbeast ").append(b).append(':');
+            for (int what = 0; what <= 5; what++) {
+                s.append(' ').append(x.beast(b, what));
+            }
+        }
+        for (int g = 0; g < x.told(1); g++) {
+            s.append("\ngate ").append(g).append(':');
+            for (int what = 0; what <= 5; what++) {
+                s.append(' ').append(x.gate(g, what));
+            }
+            for (int k = 0; x.listed(g, k) != StripeTrade.NONE; k++) {
+                s.append(" [").append(x.listed(g, k)).append(']');
+            }
+        }
+        s.append("\nkept ").append(x.count(0)).append(' ').append(x.count(2)).append("\nlaw");
+        s.append(' ').append(x.would(40, 8, 8, 400, 999, 999, 255, 4)).append(' ').append(x.would(7, 2, 3, 4, 5, 6, 8, 1));
+        return s.append('\n').toString();
     }
 
     static void end() {
