@@ -44,9 +44,14 @@ public final class AskEdgesTest {
         Due.is("all", 255, y.told(8));
         Due.work(y, "wash 0;rub 3 0;tar 5 1;");
         Due.is("but 0 and 3", 255 - 1 - 8, y.told(8));
-        StripeTrade z = Due.of("gate 0 0;".repeat(5) + "list 0 1;list 4 1;beast 1 0;");
-        Due.work(z, "pass 0 0;pass 0 4;pass 0 4;");
-        Due.is("passings of gates 0 and 4", 3, z.told(7));
+        Due.sentence("8", "7 passings in all");
+        StripeTrade z = Due.of("gate 0 1;gate 0 2;gate 0 4;gate 0 8;gate 0 16;list 0 1;list 1 1;list 2 1;list 3 1;list 4 1;"
+                + "beast 1 0;");
+        for (int g = 0; g < 5; g++) {
+            Due.work(z, "pass 0 " + g + ";");
+            Due.is("passings", g + 1, z.told(7));
+            Due.is("what gates took in all", (2 << g) - 1, z.told(4));
+        }
     }
 
     private static void ofABeast() {

@@ -361,6 +361,13 @@ public final class LawEdgesTest {
         Due.is("the first 3 of 20 bytes", 1, x.law(3));
         Due.is("the tape is empty", 0, x.count(1));
         Due.is("the fee", 10, x.fee(0, 0));
+        Due.feed(x, "105 toll");
+        Due.is("a number is cut by n", 1, x.law(2));
+        Due.is("the fee", 10, x.fee(0, 0));
+        Due.feed(x, "tolls");
+        Due.is("a word is cut by n", 1, x.law(4));
+        Due.is("the fee", 7, x.fee(0, 0));
+        Due.law(x, "10");
         Due.is("the year stays", 1, x.told(2));
         Due.is("the image stays", 1, x.count(0));
         Due.is("what can be undone stays", 1, x.count(2));

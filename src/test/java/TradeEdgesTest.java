@@ -330,6 +330,14 @@ public final class TradeEdgesTest {
         Due.feed(x, "purse 1;purse 2;purse 3;");
         Due.is("the length is n, not that of the tape", -9, x.trade(13));
         Due.is("at n", 13, x.fault());
+        String text = "beast 12 34;list";
+        for (int n = 1; n < 12; n++) {
+            Due.feed(x, text);
+            Due.is("a text that ends at " + n, -9, x.trade(n));
+            Due.is("its fault, whatever stands behind it", n < 5 ? 0 : n, x.fault());
+        }
+        Due.feed(x, text);
+        Due.is("a text that ends with its clause", 1, x.trade(12));
     }
 
     private static void noneSuch() {
@@ -375,6 +383,12 @@ public final class TradeEdgesTest {
         Due.is("no beasts", 0, x.told(0));
         Due.feed(x, "beast 5 3;beast 6 4;");
         Due.is("all of twenty", 2, x.trade(20));
+        Due.feed(x, "purses;" + " ".repeat(13));
+        Due.is("a word is cut by n", -9, x.trade(5));
+        Due.is("behind the word", 5, x.fault());
+        Due.feed(x, "purse 1234567;      ");
+        Due.is("a number is cut by n", -9, x.trade(9));
+        Due.is("behind the number", 9, x.fault());
     }
 
     /** One beast tarred, one gate passed, a law, a refused step, two works, an image. */

@@ -210,6 +210,9 @@ public final class WorkEdgesTest {
         Due.feed(x, "year;year;year;year;");
         Due.is("the length is n, not that of the tape", -9, x.work(9));
         Due.is("at n", 9, x.fault());
+        Due.feed(x, "years;");
+        Due.is("a word is cut by n", -9, x.work(4));
+        Due.is("behind the word", 4, x.fault());
     }
 
     private static void noneSuch() {
@@ -282,6 +285,19 @@ public final class WorkEdgesTest {
             done(x, 0, 1, step);
             Due.same("behind " + step, before, Due.state(x));
         }
+        StripeTrade full = Due.of("beast 5 3;".repeat(8));
+        String eight = Due.state(full);
+        done(full, 0, 1, "foal 0 1;");
+        full.undo();
+        Due.same("behind a foal that was refused, undone", eight, Due.state(full));
+        StripeTrade old = Due.of("beast 5 3;");
+        done(old, 180, 0, YEARS);
+        done(old, 120, 0, "again 4[again 30[year;];];");
+        old.work(0);
+        String before = Due.state(old);
+        old.undo();
+        done(old, 0, 1, "year;");
+        Due.same("behind a year that was refused", before.replace("300 100 0 0 0", "300 100 0 0 1"), Due.state(old));
     }
 
     private static void twoHundredBegun() {
