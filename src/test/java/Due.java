@@ -1,6 +1,6 @@
-/** Counts and prints the answers that are not due; helps the tests. */
-final class Due {
-    interface Call {
+/** Counts and prints the answers that are not due; helps the tests, and what they compile (so some of it is public). */
+public final class Due {
+    public interface Call {
         long answer();
     }
 
@@ -16,7 +16,7 @@ final class Due {
         sentence = where + " \"" + words + "\": ";
     }
 
-    static void is(String what, long want, long got) {
+    public static void is(String what, long want, long got) {
         asked++;
         if (want != got) {
             wrong++;
@@ -32,11 +32,11 @@ final class Due {
         }
     }
 
-    static void refusedArgument(String what, Call call) {
+    public static void refusedArgument(String what, Call call) {
         refused(what, IllegalArgumentException.class, call);
     }
 
-    static void refusedElement(String what, Call call) {
+    public static void refusedElement(String what, Call call) {
         refused(what, java.util.NoSuchElementException.class, call);
     }
 
